@@ -1,0 +1,52 @@
+/** Counts what is not as due, and ends the test with exit code 1 if there was something. */
+final class Check {
+    private final String name;
+    private int asked;
+    private int wrong;
+
+    Check(String name) {
+        this.name = name;
+    }
+
+    void due(String call, long got, long want) {
+        asked++;
+        if (got != want) {
+            wrong++;
+            System.out.println(name + ": " + call + " answered " + got + ", due is " + want);
+        }
+    }
+
+    void due(String what, boolean holds) {
+        due(what, holds ? 1 : 0, 1);
+    }
+
+    /** So that a broken program does not fill the screen. */
+    boolean isEnough() {
+        return wrong > 20;
+    }
+
+    void end() {
+        System.out.println(name + ": " + asked + " asked, " + wrong + " not as due");
+        if (wrong != 0 || asked == 0) {
+            System.exit(1);
+        }
+    }
+
+    /** Puts a text behind the page. */
+    static void write(MudShares x, String text) {
+        for (int i = 0; i < text.length(); i++) {
+            x.letter(text.charAt(i));
+        }
+    }
+
+    /** A new object with these sources. */
+    static MudShares of(String text) {
+        MudShares x = new MudShares();
+        write(x, text);
+        if (x.sources() < 1) {
+            System.out.println("no sources: " + text);
+            System.exit(1);
+        }
+        return x;
+    }
+}
