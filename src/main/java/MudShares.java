@@ -63,8 +63,7 @@ public final class MudShares {
     }
 
     public long sources() {
-        int taken = reader.read(page);
-        if (taken < page.length || !reader.isWhole()) {
+        if (reader.read(page) < page.length || !reader.finish()) {
             return STATE;
         }
         mud.become(reader);
@@ -405,9 +404,13 @@ public final class MudShares {
             return page.length;
         }
 
-        /** Whether what was taken is sources as it stands. */
-        boolean isWhole() {
-            return number != NO_FIGURE && isLastTracer();
+        /** Whether what was taken is sources as it stands; keeps its last number, which has no sign behind it. */
+        boolean finish() {
+            if (number == NO_FIGURE || !isLastTracer()) {
+                return false;
+            }
+            keepNumber();
+            return true;
         }
 
         int sourcesRead() {
@@ -416,11 +419,6 @@ public final class MudShares {
 
         int tracersRead() {
             return tracer + 1;
-        }
-
-        // The last number has no sign behind it that would keep it.
-        void finish() {
-            keepNumber();
         }
 
         int draftOf(int ofSource, int ofTracer) {
@@ -508,7 +506,6 @@ public final class MudShares {
         void become(Reader reader) {
             sourceCount = reader.sourcesRead();
             tracerCount = reader.tracersRead();
-            reader.finish();
             for (int tracer = 0; tracer < MOST_TRACERS; tracer++) {
                 for (int source = 0; source < MOST_SOURCES; source++) {
                     held[source * MOST_TRACERS + tracer] = reader.draftOf(source, tracer);
@@ -707,9 +704,6 @@ public final class MudShares {
 
         private void solveParts() {
             long rest = below;
-            for (int source = 0; source < MOST_SOURCES; source++) {
-                parts[source] = 0;
-            }
             for (int i = 0; i < OTHERS; i++) {
                 long part = 0;
                 for (int j = 0; j < OTHERS; j++) {
