@@ -1,6 +1,11 @@
+import java.util.Set;
+import java.util.TreeSet;
+
 /** Counts what is not as due, and ends the test with exit code 1 if there was something. */
 final class Check {
     private final String name;
+    private final Set<String> sentences = new TreeSet<>();
+    private String sentence = "";
     private int asked;
     private int wrong;
 
@@ -8,11 +13,19 @@ final class Check {
         this.name = name;
     }
 
+    /** What is asked from here on shows whether this sentence of the document holds. */
+    void says(String words) {
+        sentence = " [" + words + "]";
+        if (!sentences.add(words)) {
+            due("the sentence is told once alone", false);
+        }
+    }
+
     void due(String call, long got, long want) {
         asked++;
         if (got != want) {
             wrong++;
-            System.out.println(name + ": " + call + " answered " + got + ", due is " + want);
+            System.out.println(name + sentence + ": " + call + " answered " + got + ", due is " + want);
         }
     }
 
@@ -26,7 +39,8 @@ final class Check {
     }
 
     void end() {
-        System.out.println(name + ": " + asked + " asked, " + wrong + " not as due");
+        String told = sentences.isEmpty() ? "" : sentences.size() + " sentences, ";
+        System.out.println(name + ": " + told + asked + " asked, " + wrong + " not as due");
         if (wrong != 0 || asked == 0) {
             System.exit(1);
         }
