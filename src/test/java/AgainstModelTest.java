@@ -3,7 +3,10 @@ import java.util.Random;
 /** Long runs of calls, the same ones each time, on the program and on the plain model side by side. */
 public final class AgainstModelTest {
     private static final int RUNS = 300;
-    private static final int CALLS = 512;
+
+    // Nothing is promised behind that; a text and all that is asked of it at once fit in at the end.
+    private static final int MOST_CALLS = 512;
+    private static final int MOST_AT_ONCE = 52;
     private static final int[] WILD = {-1, 5, 16, 31, 32, 47, 100, 10000, Integer.MAX_VALUE, Integer.MIN_VALUE, -2};
 
     private final Check check;
@@ -11,6 +14,7 @@ public final class AgainstModelTest {
     private final int run;
     private final MudShares x = new MudShares();
     private final PlainModel m = new PlainModel();
+    private int asked;
 
     // From which numbers a run draws what sources have: few numbers make sources alike or in one line, far ones make
     // fractions long.
@@ -34,13 +38,11 @@ public final class AgainstModelTest {
     }
 
     private void calls() {
-        int done = 0;
-        while (done < CALLS && !check.isEnough()) {
-            if (random.nextInt(60) == 0 || done == 0) {
-                done += text(random.nextInt(4) == 0);
+        while (asked + MOST_AT_ONCE <= MOST_CALLS && !check.isEnough()) {
+            if (random.nextInt(60) == 0 || asked == 0) {
+                text(random.nextInt(4) == 0);
             } else {
                 one();
-                done++;
             }
         }
     }
@@ -57,7 +59,7 @@ public final class AgainstModelTest {
     }
 
     /** Writes a text of sources, sometimes with one letter wrong or gone or too many, and reads it. */
-    private int text(boolean spoilt) {
+    private void text(boolean spoilt) {
         int tracers = 1 + random.nextInt(4);
         int sources = 1 + random.nextInt(4);
         StringBuilder text = new StringBuilder();
@@ -75,19 +77,15 @@ public final class AgainstModelTest {
                 default -> text.deleteCharAt(at);
             }
         }
-        int calls = 0;
         if (random.nextInt(8) != 0) {
             due("blank()", x.blank(), m.blank());
-            calls++;
         }
         for (char c : text.toString().toCharArray()) {
             due("letter(" + (int) c + ")", x.letter(c), m.letter(c));
-            calls++;
         }
         due("fault()", x.fault(), m.fault());
         due("sources()", x.sources(), m.sources());
         due("digest()", x.digest(), m.digest());
-        return calls + 3;
     }
 
     private void one() {
@@ -190,6 +188,7 @@ public final class AgainstModelTest {
     }
 
     private void due(String call, long got, long want) {
+        asked++;
         check.due("run " + run + ": " + call, got, want);
     }
 
