@@ -8,6 +8,10 @@ final class Check {
     private String sentence = "";
     private int asked;
     private int wrong;
+    private int wrongBefore;
+
+    // Texts of tests that were not read as sources: what is asked then shows little.
+    private static int unread;
 
     Check(String name) {
         this.name = name;
@@ -16,6 +20,7 @@ final class Check {
     /** What is asked from here on shows whether this sentence of the document holds. */
     void says(String words) {
         sentence = " [" + words + "]";
+        wrongBefore = wrong;
         if (!sentences.add(words)) {
             due("the sentence is told once alone", false);
         }
@@ -25,7 +30,9 @@ final class Check {
         asked++;
         if (got != want) {
             wrong++;
-            System.out.println(name + sentence + ": " + call + " answered " + got + ", due is " + want);
+            if (!isEnough()) {
+                System.out.println(name + sentence + ": " + call + " answered " + got + ", due is " + want);
+            }
         }
     }
 
@@ -33,15 +40,15 @@ final class Check {
         due(what, holds ? 1 : 0, 1);
     }
 
-    /** So that a broken program does not fill the screen. */
+    /** So that a broken program does not fill the screen; each sentence is asked for some time. */
     boolean isEnough() {
-        return wrong > 20;
+        return wrong - wrongBefore > 20;
     }
 
     void end() {
         String told = sentences.isEmpty() ? "" : sentences.size() + " sentences, ";
         System.out.println(name + ": " + told + asked + " asked, " + wrong + " not as due");
-        if (wrong != 0 || asked == 0) {
+        if (wrong != 0 || unread != 0 || asked == 0) {
             System.exit(1);
         }
     }
@@ -58,8 +65,8 @@ final class Check {
         MudShares x = new MudShares();
         write(x, text);
         if (x.sources() < 1) {
-            System.out.println("no sources: " + text);
-            System.exit(1);
+            unread++;
+            System.out.println("not read as sources: " + text);
         }
         return x;
     }

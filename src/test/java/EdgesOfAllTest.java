@@ -128,22 +128,27 @@ public final class EdgesOfAllTest {
 
     private void digestOfEachShape() {
         check.says("18: for each of these numbers, in order");
-        int[] numbers = {3, 14, 1, 5, 9, 2, 6, 20, 0, 8, 19, 7, 12, 11, 4, 17};
-        for (int sources = 1; sources <= 4; sources++) {
-            for (int tracers = 1; tracers <= 4; tracers++) {
-                StringBuilder text = new StringBuilder();
-                for (int at = 0; at < sources * tracers; at++) {
-                    text.append(at == 0 ? "" : at % tracers == 0 ? ";" : ",").append(numbers[at]);
-                }
-                MudShares x = Check.of(text.toString());
-                for (int t = 0; t < tracers; t++) {
-                    x.set(t, 0, 4 + 3 * t);
-                    x.set(t, 1, 5 - t);
-                }
-                Check.write(x, "20,x");
-                check.due("digest() of '" + text + "'", x.digest(), digestByCalls(x, "20,x"));
-            }
+        int[] apart = {3, 14, 1, 5, 9, 2, 6, 20, 0, 8, 19, 7, 12, 11, 4, 17};
+        // Sources that are alike by some tracers, and not by all.
+        int[] alike = {5, 5, 6, 5, 5, 6, 6, 5, 5, 5, 5, 6, 6, 5, 6, 5};
+        for (int shape = 0; shape < 16; shape++) {
+            digestOfShape(1 + shape / 4, 1 + shape % 4, apart);
+            digestOfShape(1 + shape / 4, 1 + shape % 4, alike);
         }
+    }
+
+    private void digestOfShape(int sources, int tracers, int[] numbers) {
+        StringBuilder text = new StringBuilder();
+        for (int at = 0; at < sources * tracers; at++) {
+            text.append(at == 0 ? "" : at % tracers == 0 ? ";" : ",").append(numbers[at]);
+        }
+        MudShares x = Check.of(text.toString());
+        for (int t = 0; t < tracers; t++) {
+            x.set(t, 0, 4 + 3 * t);
+            x.set(t, 1, 5 - t);
+        }
+        Check.write(x, "20,x");
+        check.due("digest() of '" + text + "'", x.digest(), digestByCalls(x, "20,x"));
     }
 
     /** The digest by the words of the document, from what the other calls answer. */

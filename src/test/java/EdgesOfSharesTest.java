@@ -110,9 +110,16 @@ public final class EdgesOfSharesTest {
         // At -1/20 the row has less misfit (60 and a half) than source 1 alone (61), which is the best.
         mud(TWO_APART, row(5, 16)).due("corner(3, 3, 0) 0", "corner(3, 3, 1) 121", "corner(3, 3, 2) 2", "best(3, 1) 61",
             "best(3, 2) 1", "corner(2, 3, 1) 61");
+        mud(TWO_APART, row(16, 5)).due("corner(3, 3, 0) 0", "corner(3, 3, 1) 121", "corner(3, 3, 2) 2", "best(3, 1) 61",
+            "best(3, 2) 1", "corner(1, 3, 1) 61");
         mud("1;2", row(20)).due("corner(3, 1, 0) 0", "corner(3, 1, 1) 0", "corner(3, 1, 2) 1", "best(1, 0) 2",
             "best(1, 1) 324");
+        mud("2;1", row(20)).due("corner(3, 1, 0) 0", "corner(3, 1, 1) 0", "corner(3, 1, 2) 1", "best(1, 0) 1");
         mud("20;19", row(0)).due("corner(3, 1, 0) 0", "corner(3, 1, 1) 0", "best(1, 0) 2", "best(1, 1) 361");
+        // One of three, in each place, is at -1/10, and the row fits.
+        mud("0,0;10,0;0,10", row(6, 5)).due("corner(7, 3, 0) 0", "corner(7, 3, 1) 0", "corner(7, 3, 2) 1", "best(3, 0) 6");
+        mud("10,0;0,0;0,10", row(6, 5)).due("corner(7, 3, 0) 0", "corner(7, 3, 1) 0", "corner(7, 3, 2) 1", "best(3, 0) 5");
+        mud("10,0;0,10;0,0", row(6, 5)).due("corner(7, 3, 0) 0", "corner(7, 3, 1) 0", "corner(7, 3, 2) 1", "best(3, 0) 3");
     }
 
     private void goodJustOneRow() {

@@ -1,12 +1,16 @@
 import java.math.BigInteger;
+import java.util.Arrays;
 import java.util.Random;
 
 /** What the document says of all SHARES, MISFITs and PRESSes, held against what the calls answer for many SOURCES. */
 public final class SharesHoldTest {
-    private static final int MUDS = 400;
+    private static final int MUDS = 600;
 
     // Shares by so many parts are tried against those of the best set.
     private static final int PARTS = 8;
+
+    private static final int[] EIGHTS = {0, 8, 16};
+    private static final int[][] KINDS = {{}, {0, 10, 20}, EIGHTS};
 
     private final Check check = new Check("SharesHoldTest");
     private final Random random = new Random(1709);
@@ -20,60 +24,66 @@ public final class SharesHoldTest {
 
     public static void main(String[] args) {
         SharesHoldTest t = new SharesHoldTest();
-        String[] sentences = {
-            "SHARES, none below 0, one together",
-            "what all SOURCES have of a TRACER by SHARES of BEST",
-            "MISFIT: its WEIGHT times the square, all together",
-            "(No SHARES that are one together and none below 0 have less MISFIT.)",
-            "PRESS: WEIGHT times .. times .., all together",
-            "(PRESS is 0 or more; 0 where there is a SHARE.)",
-            "BEST: of like ones that of fewest SOURCES, of like ones the one of the least sum",
-            "CORNERS: GOOD sets, by how many there are",
-        };
-        for (int number = 0; number < sentences.length; number++) {
-            t.check.says(sentences[number]);
-            t.random.setSeed(1709);
-            for (int n = 0; n < MUDS && !t.check.isEnough(); n++) {
-                t.next(n);
-                t.holds(number);
-            }
-        }
+        t.hold("SHARES, none below 0, one together", t::sharesAreOne);
+        t.hold("what all SOURCES have of a TRACER by SHARES of BEST", t::mixedOfShares);
+        t.hold("MISFIT: its WEIGHT times the square, all together", t::misfitOfMixed);
+        t.hold("(No SHARES that are one together and none below 0 have less MISFIT.)", t::noneHasLess);
+        t.hold("PRESS: WEIGHT times .. times .., all together", t::pressOfMixed);
+        t.hold("(PRESS is 0 or more; 0 where there is a SHARE.)", t::pressIsNotBelowZero);
+        t.hold("BEST: the GOOD set that comes ahead of all others", t::bestOfGood);
+        t.hold("CORNERS: just the sets that corner() calls GOOD", t::cornersAreGood);
         t.check.end();
     }
 
-    private void holds(int sentence) {
-        switch (sentence) {
-            case 0 -> sharesAreOne();
-            case 1 -> mixedOfShares();
-            case 2 -> misfitOfMixed();
-            case 3 -> noneHasLess();
-            case 4 -> pressOfMixed();
-            case 5 -> pressIsNotBelowZero();
-            case 6 -> bestOfGood();
-            default -> cornersAreGood();
+    private void hold(String sentence, Runnable holds) {
+        check.says(sentence);
+        random.setSeed(1709);
+        for (int n = 0; n < MUDS && !check.isEnough(); n++) {
+            next(n);
+            holds.run();
         }
     }
 
-    /** Other sources, by few numbers every second time, so that many are alike or in one line. */
+    /**
+     * Other sources: of all numbers, of few numbers, so that many are alike or in one line, and such as the mixture is
+     * made of by so many parts.
+     */
     private void next(int n) {
         sources = 1 + random.nextInt(4);
         tracers = 1 + random.nextInt(4);
-        int steps = n % 2 == 0 ? 2 : 20;
+        int[] kind = KINDS[n % KINDS.length];
         StringBuilder text = new StringBuilder();
         for (int s = 0; s < sources; s++) {
             for (int t = 0; t < tracers; t++) {
-                held[s][t] = random.nextInt(steps + 1) * 20 / steps;
+                held[s][t] = drawn(kind);
                 text.append(t > 0 ? "," : s > 0 ? ";" : "").append(held[s][t]);
             }
         }
+        for (int t = 0; t < tracers; t++) {
+            amounts[t] = drawn(kind);
+            weights[t] = 1 + random.nextInt(5);
+        }
+        if (kind == EIGHTS) {
+            mixAmounts();
+        }
         x = Check.of(text.toString());
         for (int t = 0; t < tracers; t++) {
-            amounts[t] = random.nextInt(steps + 1) * 20 / steps;
-            weights[t] = 1 + random.nextInt(5);
             x.set(t, 0, amounts[t]);
             x.set(t, 1, weights[t]);
         }
         used = 1 + random.nextInt((1 << tracers) - 1);
+    }
+
+    private int drawn(int[] kind) {
+        return kind.length == 0 ? random.nextInt(21) : kind[random.nextInt(kind.length)];
+    }
+
+    private void mixAmounts() {
+        Arrays.fill(amounts, 0);
+        for (int part = 0; part < PARTS; part++) {
+            int source = random.nextInt(sources);
+            for (int t = 0; t < tracers; t++) amounts[t] += held[source][t] / PARTS;
+        }
     }
 
     private static Ratio ratio(long above, long below) {

@@ -139,7 +139,7 @@ final class Story {
         return told;
     }
 
-    private static boolean isRefusal(long answer) {
+    static boolean isRefusal(long answer) {
         return answer == UNKNOWN || answer == OUTSIDE || answer == STATE || answer == FULL;
     }
 
