@@ -258,7 +258,11 @@ public final class EdgesOfAllTest {
         MudShares x = new MudShares();
         for (int n = 1; n <= 47; n++) x.letter(LONGEST.charAt(n - 1));
         for (int n = 48; n <= 509; n++) {
-            check.due("call " + n + " on a full page", n % 2 == 0 ? x.letter('1') : x.made(1), n % 2 == 0 ? Story.FULL : Story.STATE);
+            if (n % 2 == 0) {
+                check.due("call " + n + ": letter() on a full page", x.letter('1'), Story.FULL);
+            } else {
+                check.due("call " + n + ": made() without sources", x.made(1), Story.STATE);
+            }
         }
         check.due("call 510: count(2)", x.count(2), 47);
         check.due("call 511: sources()", x.sources(), 4);

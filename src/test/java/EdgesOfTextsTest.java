@@ -347,6 +347,13 @@ public final class EdgesOfTextsTest {
         story.due("best(15, 0) 1", "best(15, 1) 1");
         story().read("5,6").due("set(0, 0, 5) 0", "set(1, 1, 2) 1", "alter(0, 0, 9) 5")
             .read("5,6").due("tracer(0, 0) 0", "tracer(1, 1) 1", "has(0, 0) 5");
+        story().read("5;4").due("best(1, 0) 2", "best(1, 1) 16", "alike(1, 1) 1").read("6;6").due("best(1, 0) 1", "best(1, 1) 36",
+            "alike(1, 1) 0");
+        // A tracer that is gone does not count for what comes out whole, nor does one of a text that was refused.
+        story().read("4,1;6,2").due("made(11) STATE").read("4;6").due("made(11) 2", "tracer(0, 0) 5");
+        story().read("1,1,1,1;1,1,1,1;1,1,1,1;1,1,1,2").due("made(1100) STATE").read("4;4;4;6").due("made(1100) 2",
+            "tracer(0, 0) 5");
+        story().write("4,1;6,2;").due("sources() STATE", "blank() 8").read("4;6").due("made(11) 2");
     }
 
     private void sourcesPageEmpty() {

@@ -216,6 +216,9 @@ public final class EdgesOfToldTest {
         story().read("0;20").due("made(11) 2", "tracer(0, 0) 10", "made(91) 10", "tracer(0, 0) 18", "made(19) 10",
             "tracer(0, 0) 2", "made(22) 4", "tracer(0, 0) 10", "made(64) 10", "tracer(0, 0) 12",
             "best(1, 1) 0", "share(1, 1, 0) 3", "share(1, 1, 1) 5");
+        // What is told of shares goes by the new ones at once.
+        story().read("0;20").due("best(1, 0) 1", "made(10) 1", "best(1, 0) 2", "best(1, 1) 0", "made(11) 2", "best(1, 0) 3",
+            "mixed(0, 1, 0) 10", "made(1) 1", "best(1, 0) 1");
         // WEIGHTS have no part in it, and stay; what SOURCES have stays too.
         story().read("3,1;5,9").due("set(0, 1, 5) 1", "set(1, 1, 2) 1", "made(11) 2", "tracer(0, 0) 4", "tracer(1, 0) 5",
             "tracer(0, 1) 5", "tracer(1, 1) 2", "has(0, 0) 3 has(0, 1) 1 has(1, 0) 5 has(1, 1) 9");

@@ -119,7 +119,8 @@ public final class FaceTest {
         String apart = code.replaceAll("(case [^:;{}>]*|default *)->", " ");
         check.due("no lambda, no method reference", !apart.contains("->") && !apart.contains("::"));
         for (String line : code.split("\n")) {
-            check.due("'" + line.strip() + "' is not outside the library", !line.contains("import ") || line.strip().matches(IMPORTS));
+            boolean isImport = line.strip().startsWith("import ");
+            check.due("'" + line.strip() + "' is of the library that is left", !isImport || line.strip().matches(IMPORTS));
         }
         check.due("nothing that ends in Exact", !code.contains("Exact("));
         check.due("signs 1 to 127 alone", text.chars().allMatch(c -> c >= 1 && c <= 127));
