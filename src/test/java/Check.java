@@ -3,9 +3,11 @@ import java.util.TreeSet;
 
 /** Counts what is not as due, and ends the test with exit code 1 if there was something. */
 final class Check {
+    private static final long MOST_MILLISECONDS = 300_000;
+
     private final String name;
     private final Set<String> sentences = new TreeSet<>();
-    private String sentence = "";
+    private volatile String sentence = "";
     private int asked;
     private int wrong;
     private int wrongBefore;
@@ -15,6 +17,20 @@ final class Check {
 
     Check(String name) {
         this.name = name;
+        Thread watch = new Thread(this::failLate);
+        watch.setDaemon(true);
+        watch.start();
+    }
+
+    /** A call that does not end is not as due: a test is given five minutes, and takes seconds. */
+    private void failLate() {
+        try {
+            Thread.sleep(MOST_MILLISECONDS);
+        } catch (InterruptedException e) {
+            return;
+        }
+        System.out.println(name + sentence + ": does not end");
+        Runtime.getRuntime().halt(1);
     }
 
     /** What is asked from here on shows whether this sentence of the document holds. */
