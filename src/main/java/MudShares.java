@@ -35,7 +35,7 @@ public final class MudShares {
         page = new Page();
         reader = new Reader();
         mud = new Mud();
-        nearest = new Nearest(mud);
+        nearest = new Nearest();
         told = new Fraction();
     }
 
@@ -159,7 +159,7 @@ public final class MudShares {
         if (!mud.isUsed(used) || what < 0 || what > 3) {
             return OUTSIDE;
         }
-        nearest.find(used);
+        nearest.find(mud, used);
         return ofNearest(what);
     }
 
@@ -170,7 +170,7 @@ public final class MudShares {
         if (!mud.isUsed(used) || !isPart(part)) {
             return OUTSIDE;
         }
-        nearest.find(used);
+        nearest.find(mud, used);
         return shareByNearest(source, part);
     }
 
@@ -181,7 +181,7 @@ public final class MudShares {
         if (!mud.isUsed(used) || !isPart(part)) {
             return OUTSIDE;
         }
-        nearest.find(used);
+        nearest.find(mud, used);
         return pressByNearest(source, part);
     }
 
@@ -192,7 +192,7 @@ public final class MudShares {
         if (!mud.isUsed(used) || !isPart(part)) {
             return OUTSIDE;
         }
-        nearest.find(used);
+        nearest.find(mud, used);
         return mixedByNearest(tracer, part);
     }
 
@@ -204,7 +204,7 @@ public final class MudShares {
             return OUTSIDE;
         }
         Fit fit = nearest.fit;
-        fit.weigh(used);
+        fit.weigh(mud, used);
         fit.solve(set);
         if (what == 0) {
             return fit.isGood() ? 1 : 0;
@@ -259,7 +259,7 @@ public final class MudShares {
 
     // Finds the best set once for all that is told of it: the public calls would find it again each time.
     private long digestOfShares(long start, int used) {
-        nearest.find(used);
+        nearest.find(mud, used);
         long h = start;
         for (int what = 0; what <= 3; what++) {
             h = 31 * h + ofNearest(what);
@@ -301,7 +301,7 @@ public final class MudShares {
 
     private long mixedByNearest(int tracer, int part) {
         Fit fit = nearest.fit;
-        told.put(fit.mixedAbove(tracer), fit.below);
+        told.put(fit.mixedAbove(mud, tracer), fit.below);
         return told.part(part);
     }
 
@@ -611,7 +611,6 @@ public final class MudShares {
      * of 18: a product of differences is 8000 at most, a determinant of three such rows below 4 * 10^12.
      */
     private static final class Fit {
-        private final Mud mud;
         private final long[] products;
         private final long[] matrix;
         private final long[] side;
@@ -621,8 +620,7 @@ public final class MudShares {
         private int base;
         long below;
 
-        Fit(Mud mud) {
-            this.mud = mud;
+        Fit() {
             products = new long[ROWS * ROWS];
             matrix = new long[OTHERS * OTHERS];
             side = new long[OTHERS];
@@ -631,7 +629,7 @@ public final class MudShares {
         }
 
         /** Makes ready for sets by these tracers. */
-        void weigh(int used) {
+        void weigh(Mud mud, int used) {
             for (int row = 0; row < ROWS; row++) {
                 for (int other = 0; other < ROWS; other++) {
                     products[row * ROWS + other] = mud.product(row, other, used);
@@ -681,7 +679,7 @@ public final class MudShares {
         }
 
         /** What all have of a tracer by shares, times below. */
-        long mixedAbove(int tracer) {
+        long mixedAbove(Mud mud, int tracer) {
             long sum = 0;
             for (int source = 0; source < MOST_SOURCES; source++) {
                 sum += parts[source] * mud.heldOf(source, tracer);
@@ -773,22 +771,20 @@ public final class MudShares {
 
     /** Finds the good set with the least misfit, and leaves its shares in the fit. */
     private static final class Nearest {
-        private final Mud mud;
         final Fit fit;
         final Fraction misfit;
         int set;
         int corners;
 
-        Nearest(Mud mud) {
-            this.mud = mud;
-            fit = new Fit(mud);
+        Nearest() {
+            fit = new Fit();
             misfit = new Fraction();
         }
 
-        void find(int used) {
+        void find(Mud mud, int used) {
             set = 0;
             corners = 0;
-            fit.weigh(used);
+            fit.weigh(mud, used);
             int last = mud.allSources();
             for (int candidate = 1; candidate <= last; candidate++) {
                 fit.solve(candidate);
