@@ -138,7 +138,7 @@ public final class BrokenSentences {
 
     private String output(String tester, Path folder) throws Exception {
         File told = folder.resolve(tester + ".txt").toFile();
-        Process p = new ProcessBuilder("java", "-cp", folder + File.pathSeparator + out, tester)
+        Process p = new ProcessBuilder("java", "-cp", folder + File.pathSeparator + out, tester, folder + "/MudShares.java")
             .redirectErrorStream(true).redirectOutput(told).start();
         if (!p.waitFor(MOST_SECONDS, TimeUnit.SECONDS)) {
             p.destroyForcibly().waitFor();

@@ -8,6 +8,8 @@ import java.util.Arrays;
 import java.util.List;
 import java.util.Set;
 import java.util.TreeSet;
+import java.util.regex.Matcher;
+import java.util.regex.Pattern;
 
 /** The class's face as the document has it, and the rules of LANGUAGE.md that can be seen in its text. */
 public final class FaceTest {
@@ -15,6 +17,8 @@ public final class FaceTest {
         "letter/1", "blank/0", "fault/0", "sources/0", "set/3", "alter/3", "made/1", "has/2", "tracer/2", "alike/2",
         "best/2", "share/3", "press/3", "mixed/3", "corner/3", "count/1", "digest/0");
     private static final Set<String> CONSTANTS = Set.of("NONE", "UNKNOWN", "OUTSIDE", "STATE", "FULL");
+
+    private static final Path DOCUMENT = Path.of("../shared/DOC.md");
 
     // What LANGUAGE.md rules out, as words of the text behind which no letter follows.
     private static final List<String> FORBIDDEN = List.of(
@@ -37,6 +41,7 @@ public final class FaceTest {
         FaceTest t = new FaceTest();
         t.face();
         t.constants();
+        t.document();
         t.nested();
         String text = Files.readString(Path.of(args.length > 0 ? args[0] : "src/main/java/MudShares.java"));
         t.words(text);
@@ -79,6 +84,29 @@ public final class FaceTest {
         check.due("OUTSIDE", MudShares.OUTSIDE, -1000003L);
         check.due("STATE", MudShares.STATE, -1000004L);
         check.due("FULL", MudShares.FULL, -1000005L);
+    }
+
+    /** That the document's own words have the same face as this test; they may be elsewhere when it is run. */
+    private void document() throws Exception {
+        if (!Files.exists(DOCUMENT)) {
+            System.out.println("FaceTest: no " + DOCUMENT);
+            return;
+        }
+        String text = Files.readString(DOCUMENT);
+        String face = text.substring(text.indexOf("```java"), text.indexOf("```\n", text.indexOf("```java") + 7));
+        Set<String> methods = new TreeSet<>();
+        Matcher m = Pattern.compile("public long (\\w+)\\(([^)]*)\\);").matcher(face);
+        while (m.find()) {
+            methods.add(m.group(1) + "/" + (m.group(2).isEmpty() ? 0 : m.group(2).split(",").length));
+        }
+        check.due("the document has these methods, not " + methods, methods.equals(METHODS));
+        Set<String> constants = new TreeSet<>();
+        m = Pattern.compile("([A-Z]+) = (-\\d+)L").matcher(face);
+        while (m.find()) {
+            constants.add(m.group(1));
+            check.due(m.group(1), MudShares.class.getField(m.group(1)).getLong(null), Long.parseLong(m.group(2)));
+        }
+        check.due("the document has these constants, not " + constants, constants.equals(CONSTANTS));
     }
 
     private void nested() {
